@@ -34,6 +34,7 @@ public final class HarvestLenderPromises {
         closeRollsOnlyBadYears();
         closeCallsGroups();
         closeCallsInOrder();
+        closeEight();
         seasonAndStage();
         limit();
         debt();
@@ -566,6 +567,21 @@ public final class HarvestLenderPromises {
         due("not rolled while there are others", x.instalments(0), 2);
         due("the group pays all of the debt", x.called(1), 1081 + 120);
         due("owes the others", x.owes(0), 241);
+        x.plant(0, 0, 1);
+        x.draw(0, 1000);
+        x.setYield(0, 0);
+        goTo(x, 4);
+        x.close();
+        due("not rolled while there is one", x.instalments(0), 1);
+        due("owes that one", x.owes(0), 121);
+        x.plant(0, 0, 1);
+        x.draw(0, 1000);
+        x.setYield(0, 0);
+        goTo(x, 4);
+        x.close();
+        due("rolled with the last one", x.instalments(0), 3);
+        due("owes", x.owes(0), 1202);
+        due("nobody pays", x.called(1), 0);
     }
 
     private static void closeRollsOnlyBadYears() {
@@ -699,6 +715,31 @@ public final class HarvestLenderPromises {
         due("a purse pays its own debt before others'", y.called(1), 0);
         due("his debt", y.debt(1), 118000 - 66379);
         due("the first one's debt", y.debt(0), 1081);
+    }
+
+    private static void closeEight() {
+        promise = "14 close, eight farmers";
+        HarvestLender x = with(8, 2);
+        for (int i = 0; i < 8; i++) {
+            x.plant(i, 0, i == 7 ? 50 : 1);
+        }
+        x.draw(7, 50000);
+        goTo(x, 4);
+        x.setCrop(0, 1000, 50);
+        for (int i = 0; i < 8; i++) {
+            due("harvest of " + i, x.grain(i, false), i == 7 ? 2500 : 50);
+            if (i == 0 || i == 6) {
+                x.sell(i, 50);
+            }
+        }
+        due("debt", x.debt(7), 54121);
+        x.close();
+        due("the first farmer pays", x.called(0), 20000);
+        due("the others have nothing", x.called(5), 0);
+        due("the seventh pays", x.called(6), 20000);
+        due("the last one owes", x.debt(7), 14121);
+        due("the last one's season is over", x.limit(7), 0);
+        thrown("farmer 8", INDEX, () -> x.debt(8));
     }
 
     private static void seasonAndStage() {
