@@ -1,17 +1,5 @@
-import java.util.function.IntSupplier;
-
 /** For each promise of the document: ordinary inputs, edges and wrong inputs. */
-public final class HarvestLenderPromises {
-    private static final String INDEX = "IndexOutOfBoundsException";
-    private static final String ARGUMENT = "IllegalArgumentException";
-    private static final String STATE = "IllegalStateException";
-    private static final int BIG = Integer.MAX_VALUE;
-    private static final int SMALL = Integer.MIN_VALUE;
-
-    private static int wrong = 0;
-    private static int checks = 0;
-    private static String promise = "";
-
+public final class HarvestLenderPromises extends Checks {
     public static void main(String[] args) {
         newObject();
         setNeed();
@@ -49,16 +37,13 @@ public final class HarvestLenderPromises {
         noSuchFarmer();
         failedCallsChangeNothing();
         largest();
-        System.out.println(wrong == 0 ? checks + " checks hold" : wrong + " of " + checks + " checks fail");
-        if (wrong != 0) {
-            System.exit(1);
-        }
+        finish();
     }
 
     // ---- promises
 
     private static void newObject() {
-        promise = "1 new object";
+        about = "promise 1 new object";
         HarvestLender x = new HarvestLender();
         due("farmers", x.farmers(), 0);
         due("season", x.season(), 0);
@@ -72,7 +57,7 @@ public final class HarvestLenderPromises {
     }
 
     private static void setNeed() {
-        promise = "2 setNeed";
+        about = "promise 2 setNeed";
         HarvestLender x = new HarvestLender();
         for (int crop = 0; crop < 3; crop++) {
             for (int stage = 0; stage < 4; stage++) {
@@ -101,7 +86,7 @@ public final class HarvestLenderPromises {
     }
 
     private static void setCrop() {
-        promise = "3 setCrop";
+        about = "promise 3 setCrop";
         HarvestLender x = new HarvestLender();
         due("first price", x.setCrop(0, 5000, 100), 100);
         due("first price", x.setCrop(1, 1, 0), 100);
@@ -128,7 +113,7 @@ public final class HarvestLenderPromises {
     }
 
     private static void add() {
-        promise = "4 add";
+        about = "promise 4 add";
         HarvestLender x = new HarvestLender();
         for (int bad : new int[] {-1, 3, BIG, SMALL}) {
             thrown("group " + bad, INDEX, () -> x.add(bad));
@@ -142,7 +127,7 @@ public final class HarvestLenderPromises {
     }
 
     private static void farmers() {
-        promise = "5 farmers";
+        about = "promise 5 farmers";
         HarvestLender x = new HarvestLender();
         for (int i = 0; i < 8; i++) {
             due("farmers", x.farmers(), i);
@@ -157,7 +142,7 @@ public final class HarvestLenderPromises {
     }
 
     private static void plant() {
-        promise = "6 plant";
+        about = "promise 6 plant";
         HarvestLender x = with(3, 0);
         x.setNeed(1, 0, 30);
         for (int bad : new int[] {-1, 3, BIG, SMALL}) {
@@ -196,7 +181,7 @@ public final class HarvestLenderPromises {
     }
 
     private static void cover() {
-        promise = "7 cover";
+        about = "promise 7 cover";
         HarvestLender x = with(2, 0);
         thrown("not planted", STATE, () -> x.cover(0, 50));
         x.plant(0, 0, 2);
@@ -222,7 +207,7 @@ public final class HarvestLenderPromises {
     }
 
     private static void draw() {
-        promise = "8 draw";
+        about = "promise 8 draw";
         HarvestLender x = with(2, 0);
         x.setNeed(0, 1, 10);
         thrown("nothing planted", STATE, () -> x.draw(0, 1));
@@ -258,7 +243,7 @@ public final class HarvestLenderPromises {
     }
 
     private static void setYield() {
-        promise = "9 setYield";
+        about = "promise 9 setYield";
         HarvestLender x = with(2, 0);
         due("none told, not planted", x.setYield(0, 0), 100);
         due("told", x.setYield(0, 200), 0);
@@ -281,7 +266,7 @@ public final class HarvestLenderPromises {
     }
 
     private static void next() {
-        promise = "10 next";
+        about = "promise 10 next";
         HarvestLender x = with(1, 0);
         for (int stage = 1; stage <= 4; stage++) {
             due("stage", x.next(), stage);
@@ -293,7 +278,7 @@ public final class HarvestLenderPromises {
     }
 
     private static void interest() {
-        promise = "10 next, interest";
+        about = "promise 10 next, interest";
         HarvestLender x = with(3, 0);
         x.plant(0, 0, 1);
         x.plant(1, 0, 1);
@@ -312,7 +297,7 @@ public final class HarvestLenderPromises {
     }
 
     private static void harvest() {
-        promise = "10 next, harvest";
+        about = "promise 10 next, harvest";
         HarvestLender x = with(5, 0);
         x.setCrop(1, 7, 3);
         x.plant(0, 1, 11);
@@ -348,7 +333,7 @@ public final class HarvestLenderPromises {
     }
 
     private static void pledge() {
-        promise = "11 pledge";
+        about = "promise 11 pledge";
         HarvestLender x = with(2, 0);
         thrown("no grain", STATE, () -> x.pledge(0, 1));
         for (int bad : new int[] {0, -1, 1000001, BIG, SMALL}) {
@@ -382,7 +367,7 @@ public final class HarvestLenderPromises {
     }
 
     private static void sell() {
-        promise = "12 sell";
+        about = "promise 12 sell";
         HarvestLender x = with(2, 0);
         thrown("no grain", STATE, () -> x.sell(0, 1));
         for (int bad : new int[] {0, -1, 1000001, BIG, SMALL}) {
@@ -411,7 +396,7 @@ public final class HarvestLenderPromises {
     }
 
     private static void sellPledged() {
-        promise = "12 sell, pledged grain";
+        about = "promise 12 sell, pledged grain";
         HarvestLender x = with(1, 0);
         x.plant(0, 0, 1);
         goTo(x, 4);
@@ -462,7 +447,7 @@ public final class HarvestLenderPromises {
     }
 
     private static void repay() {
-        promise = "13 repay";
+        about = "promise 13 repay";
         HarvestLender x = sold(100, 500);
         for (int bad : new int[] {0, -1, 100000001, BIG, SMALL}) {
             thrown("cents " + bad, ARGUMENT, () -> x.repay(0, bad));
@@ -489,7 +474,7 @@ public final class HarvestLenderPromises {
     }
 
     private static void close() {
-        promise = "14 close";
+        about = "promise 14 close";
         HarvestLender x = with(1, 0);
         for (int stage = 0; stage < 4; stage++) {
             thrown("stage " + stage, STATE, x::close);
@@ -525,7 +510,7 @@ public final class HarvestLenderPromises {
     }
 
     private static void closeRolls() {
-        promise = "14 close, rolled debts";
+        about = "promise 14 close, rolled debts";
         HarvestLender x = with(2, 0);
         x.plant(1, 0, 50);
         goTo(x, 4);
@@ -585,7 +570,7 @@ public final class HarvestLenderPromises {
     }
 
     private static void closeRollsOnlyBadYears() {
-        promise = "14 close, what is rolled";
+        about = "promise 14 close, what is rolled";
         HarvestLender x = with(5, 2);
         for (int i = 0; i < 4; i++) {
             x.plant(i, 0, 1);
@@ -636,7 +621,7 @@ public final class HarvestLenderPromises {
     }
 
     private static void closeCallsGroups() {
-        promise = "14 close, groups";
+        about = "promise 14 close, groups";
         HarvestLender x = new HarvestLender();
         x.add(0);
         x.add(1);
@@ -673,7 +658,7 @@ public final class HarvestLenderPromises {
     }
 
     private static void closeCallsInOrder() {
-        promise = "14 close, order";
+        about = "promise 14 close, order";
         HarvestLender x = with(4, 1);
         x.setNeed(0, 0, 15000);
         for (int i = 0; i < 4; i++) {
@@ -718,7 +703,7 @@ public final class HarvestLenderPromises {
     }
 
     private static void closeEight() {
-        promise = "14 close, eight farmers";
+        about = "promise 14 close, eight farmers";
         HarvestLender x = with(8, 2);
         for (int i = 0; i < 8; i++) {
             x.plant(i, 0, i == 7 ? 50 : 1);
@@ -743,7 +728,7 @@ public final class HarvestLenderPromises {
     }
 
     private static void seasonAndStage() {
-        promise = "15 season, 16 stage";
+        about = "promise 15 season, 16 stage";
         HarvestLender x = new HarvestLender();
         due("season", x.season(), 0);
         for (int stage = 0; stage < 4; stage++) {
@@ -758,7 +743,7 @@ public final class HarvestLenderPromises {
     }
 
     private static void limit() {
-        promise = "17 limit";
+        about = "promise 17 limit";
         HarvestLender x = with(2, 0);
         x.setNeed(1, 0, 1);
         x.setNeed(1, 1, 10);
@@ -780,7 +765,7 @@ public final class HarvestLenderPromises {
     }
 
     private static void debt() {
-        promise = "18 debt";
+        about = "promise 18 debt";
         HarvestLender x = with(2, 0);
         due("at first", x.debt(0), 0);
         x.plant(0, 0, 1);
@@ -794,7 +779,7 @@ public final class HarvestLenderPromises {
     }
 
     private static void owes() {
-        promise = "19 owes";
+        about = "promise 19 owes";
         HarvestLender x = with(1, 0);
         due("at first", x.owes(0), 0);
         x.plant(0, 0, 1);
@@ -816,7 +801,7 @@ public final class HarvestLenderPromises {
     }
 
     private static void instalments() {
-        promise = "20 instalments";
+        about = "promise 20 instalments";
         HarvestLender x = with(1, 0);
         due("at first", x.instalments(0), 0);
         x.plant(0, 0, 1);
@@ -834,7 +819,7 @@ public final class HarvestLenderPromises {
     }
 
     private static void purse() {
-        promise = "21 purse";
+        about = "promise 21 purse";
         HarvestLender x = sold(0, 5000);
         due("the price", x.purse(0), 5000);
         due("of another", x.purse(1), 0);
@@ -847,7 +832,7 @@ public final class HarvestLenderPromises {
     }
 
     private static void grain() {
-        promise = "22 grain";
+        about = "promise 22 grain";
         HarvestLender x = with(2, 0);
         due("at first", x.grain(0, false), 0);
         due("at first", x.grain(0, true), 0);
@@ -871,7 +856,7 @@ public final class HarvestLenderPromises {
     }
 
     private static void called() {
-        promise = "23 called";
+        about = "promise 23 called";
         HarvestLender x = with(2, 0);
         due("before any close", x.called(1), 0);
         x.plant(0, 0, 1);
@@ -891,7 +876,7 @@ public final class HarvestLenderPromises {
     }
 
     private static void repaid() {
-        promise = "24 repaid";
+        about = "promise 24 repaid";
         HarvestLender x = with(2, 0);
         for (int source = 0; source < 5; source++) {
             due("at first", x.repaid(0, source), 0);
@@ -931,7 +916,7 @@ public final class HarvestLenderPromises {
     }
 
     private static void charged() {
-        promise = "25 charged";
+        about = "promise 25 charged";
         HarvestLender x = with(1, 0);
         due("at first", x.charged(0), 0);
         x.plant(0, 0, 1);
@@ -960,7 +945,7 @@ public final class HarvestLenderPromises {
     }
 
     private static void constants() {
-        promise = "constants";
+        about = "constants";
         due("NONE", HarvestLender.NONE, -1);
         due("PURSE", HarvestLender.PURSE, 0);
         due("COVER", HarvestLender.COVER, 1);
@@ -970,7 +955,7 @@ public final class HarvestLenderPromises {
     }
 
     private static void noSuchFarmer() {
-        promise = "6 to 9, 11 to 13, 17 to 25 no such farmer";
+        about = "promise 6 to 9, 11 to 13, 17 to 25 no such farmer";
         HarvestLender x = with(2, 0);
         for (int bad : new int[] {-1, 2, 7, 8, BIG, SMALL}) {
             thrown("plant", INDEX, () -> x.plant(bad, 0, 1));
@@ -994,7 +979,7 @@ public final class HarvestLenderPromises {
     }
 
     private static void failedCallsChangeNothing() {
-        promise = "terms: a call that throws changes nothing";
+        about = "terms: a call that throws changes nothing";
         HarvestLender x = with(1, 0);
         x.plant(0, 0, 1);
         x.draw(0, 900);
@@ -1019,7 +1004,7 @@ public final class HarvestLenderPromises {
     }
 
     private static void largest() {
-        promise = "largest sums";
+        about = "largest sums";
         HarvestLender x = with(1, 0);
         for (int stage = 0; stage < 4; stage++) {
             x.setNeed(0, stage, 100000);
@@ -1075,14 +1060,6 @@ public final class HarvestLenderPromises {
 
     // ---- what the promises share
 
-    private static HarvestLender with(int farmers, int group) {
-        HarvestLender x = new HarvestLender();
-        for (int i = 0; i < farmers; i++) {
-            x.add(group);
-        }
-        return x;
-    }
-
     /** Three farmers at the stage 4; the first one drew at the stage 0 and sold grain for a price. */
     private static HarvestLender sold(int drawn, int price) {
         HarvestLender x = with(3, 0);
@@ -1095,12 +1072,6 @@ public final class HarvestLenderPromises {
         return x;
     }
 
-    private static void goTo(HarvestLender x, int stage) {
-        while (x.stage() < stage) {
-            x.next();
-        }
-    }
-
     private static void zero(HarvestLender x, int farmer) {
         due("limit", x.limit(farmer), 0);
         due("debt", x.debt(farmer), 0);
@@ -1111,27 +1082,5 @@ public final class HarvestLenderPromises {
         due("pledged", x.grain(farmer, true), 0);
         due("called", x.called(farmer), 0);
         due("charged", x.charged(farmer), 0);
-    }
-
-    private static void due(String what, long got, long want) {
-        checks++;
-        if (got != want) {
-            wrong++;
-            System.out.println("promise " + promise + ": " + what + " is " + got + ", due is " + want);
-        }
-    }
-
-    private static void thrown(String what, String want, IntSupplier call) {
-        checks++;
-        String got = "nothing";
-        try {
-            call.getAsInt();
-        } catch (RuntimeException e) {
-            got = e.getClass().getSimpleName();
-        }
-        if (!got.equals(want)) {
-            wrong++;
-            System.out.println("promise " + promise + ": " + what + " throws " + got + ", due is " + want);
-        }
     }
 }
