@@ -173,6 +173,25 @@ public final class HarvestLenderEdges extends Checks {
             thrown("close", STATE, x::close);
             due("purse is as it was", x.purse(0), 3419);
         });
+        test("needs, prices and normal yields can be changed at each stage, the season 20 too, and count at once", () -> {
+            HarvestLender x = with(1, 0);
+            for (int season = 0; season <= 20; season += 20) {
+                toSeason(x, season);
+                x.plant(0, 0, 1);
+                for (int stage = 0; stage <= 4; stage++) {
+                    x.setNeed(0, 0, stage);
+                    due("limit", x.limit(0), stage + 1000 * Math.min(stage, 3));
+                    due("need", x.setNeed(0, 0, 1000), stage);
+                    x.setCrop(0, 10 + stage, 20 + stage);
+                    due("price", x.setCrop(0, 10 + stage, 20 + stage), 10 + stage);
+                    if (stage < 4) {
+                        x.next();
+                    }
+                }
+                due("harvested with the normal yield of the stage 3", x.grain(0, false), 23);
+                due("sold at the price of the stage 4", x.sell(0, 23), 23 * 14);
+            }
+        });
         test("20 seasons without farmers", () -> {
             HarvestLender x = new HarvestLender();
             toSeason(x, 20);
