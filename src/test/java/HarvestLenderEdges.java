@@ -15,14 +15,19 @@ public final class HarvestLenderEdges extends Checks {
         interest();
         harvests();
         covers();
+        coversBought();
         pledges();
         sales();
+        salesInDebt();
         repayments();
         closes();
         purseAtTheClose();
         rolledDebts();
+        whatIsRolled();
         instalments();
+        debtors();
         groups();
+        payers();
         called();
         sums();
         finish();
@@ -192,6 +197,20 @@ public final class HarvestLenderEdges extends Checks {
                 due("sold at the price of the stage 4", x.sell(0, 23), 23 * 14);
             }
         });
+        test("needs, prices and normal yields are of no season: they stay over the close", () -> {
+            HarvestLender x = with(1, 0);
+            x.setNeed(1, 3, 7);
+            x.setCrop(1, 8, 9);
+            goTo(x, 4);
+            x.close();
+            due("limit", x.plant(0, 1, 1), 1000);
+            goTo(x, 4);
+            due("limit with the need", x.limit(0), 3007);
+            due("grain by the normal yield", x.grain(0, false), 9);
+            due("price", x.sell(0, 2), 16);
+            due("need before", x.setNeed(1, 3, 1000), 7);
+            due("price before", x.setCrop(1, 100, 50), 8);
+        });
         test("20 seasons without farmers", () -> {
             HarvestLender x = new HarvestLender();
             toSeason(x, 20);
@@ -258,6 +277,12 @@ public final class HarvestLenderEdges extends Checks {
             x.setCrop(0, 5000, 50);
             x.setCrop(1, 3, 50);
             due("the grain is of the other crop now", x.sell(0, 1), 3);
+        });
+        test("grain of another farmer refuses nothing", () -> {
+            HarvestLender x = grown(50);
+            x.close();
+            due("the crop 1", x.plant(1, 1, 1), 1000);
+            thrown("but for its owner", STATE, () -> x.plant(0, 1, 1));
         });
         test("another crop can be planted behind a harvest of nothing", () -> {
             HarvestLender x = with(1, 0);
@@ -526,6 +551,30 @@ public final class HarvestLenderEdges extends Checks {
                 due("debt of " + i, x.debt(i), 51 + 51 * i);
             }
         });
+        test("to each debt, of a farmer who has not planted in this season too", () -> {
+            HarvestLender x = with(1, 0);
+            x.plant(0, 0, 1);
+            x.draw(0, 100);
+            goTo(x, 4);
+            x.close();
+            due("debt", x.debt(0), 108);
+            x.next();
+            due("debt", x.debt(0), 110);
+        });
+        test("to each debt, of a farmer who has instalments or a pledge debt too", () -> {
+            HarvestLender x = rolledFrom(30);
+            x.plant(0, 0, 1);
+            x.draw(0, 100);
+            goTo(x, 4);
+            due("debt", x.debt(0), 108);
+            x.setCrop(0, 10, 50);
+            due("pledge", x.pledge(0, 1), 6);
+            x.close();
+            due("debt with an instalment", x.debt(0), 112);
+            x.next();
+            due("debt", x.debt(0), 114);
+            due("owes: an interest of 2 on the debt alone", x.owes(0), 114 + 20 + 6);
+        });
         test("interest of the stage 4 comes before what the cover pays", () -> {
             HarvestLender x = with(1, 0);
             x.setCrop(0, 1, 100);
@@ -659,6 +708,48 @@ public final class HarvestLenderEdges extends Checks {
                 due("purse", x.purse(0), sum[5]);
             });
         }
+    }
+
+    private static void coversBought() {
+        for (int[] percents : new int[][] {{1, 90}, {90, 1}, {50, 50}}) {
+            test("a cover bought again: the last one counts, " + percents[1] + " behind " + percents[0], () -> {
+                HarvestLender x = with(1, 0);
+                x.setCrop(0, 100, 100);
+                x.plant(0, 0, 1);
+                due("none before", x.cover(0, percents[0]), 0);
+                due("before", x.cover(0, percents[1]), percents[0]);
+                x.setYield(0, 0);
+                goTo(x, 4);
+                due("purse", x.purse(0), 100 * percents[1]);
+            });
+        }
+        test("cover can be bought behind a told yield, the lowest too", () -> {
+            HarvestLender x = with(1, 0);
+            x.setYield(0, 0);
+            x.plant(0, 0, 1);
+            due("none before", x.cover(0, 90), 0);
+            goTo(x, 4);
+            due("purse", x.purse(0), 4500);
+        });
+        test("what a cover pays lowers the debt, and neither a pledge debt nor instalments", () -> {
+            HarvestLender x = grown(50);
+            x.pledge(0, 1);
+            x.close();
+            x.plant(0, 0, 1);
+            x.cover(0, 90);
+            x.setYield(0, 0);
+            goTo(x, 4);
+            due("purse", x.purse(0), 60 + 4500);
+            due("the pledge debt", x.owes(0), 60);
+            HarvestLender y = rolledFrom(30);
+            y.plant(0, 0, 1);
+            y.cover(0, 90);
+            y.setYield(0, 0);
+            goTo(y, 4);
+            due("purse", y.purse(0), 4500);
+            due("the instalments", y.owes(0), 30);
+            due("repaid", x.repaid(0, COVER) + y.repaid(0, COVER), 0);
+        });
     }
 
     // ---- grain
@@ -814,6 +905,47 @@ public final class HarvestLenderEdges extends Checks {
             x.setCrop(0, 5000, 50);
             due("price", x.sell(0, 10000), 50000000);
             due("purse", x.purse(0), 50000000);
+        });
+    }
+
+    private static void salesInDebt() {
+        for (int debt : new int[] {0, 1, 3, 4, 5, 20}) {
+            int lowers = Math.min(debt, 4);
+            test("the rest of the price of pledged ones lowers the debt first: 4 for " + debt, () -> {
+                HarvestLender x = pledgedOneOf(1, debt);
+                x.sell(0, 1);
+                due("debt", x.debt(0), debt - lowers);
+                due("owes", x.owes(0), debt - lowers);
+                due("purse", x.purse(0), 4 - lowers);
+                due("repaid", x.repaid(0, SALE), lowers);
+                due("charged", x.charged(0), debt + 6);
+            });
+        }
+        for (int debt : new int[] {0, 1, 9, 10, 11, 13, 14, 15, 30}) {
+            int lowers = Math.min(debt, 14);
+            test("a sale of both kinds: 10, and 4 behind the pledge debt, for " + debt, () -> {
+                HarvestLender x = pledgedOneOf(2, debt);
+                due("price of all these units", x.sell(0, 2), 20);
+                due("debt", x.debt(0), debt - lowers);
+                due("owes", x.owes(0), debt - lowers);
+                due("purse", x.purse(0), 14 - lowers);
+                due("repaid", x.repaid(0, SALE), lowers);
+            });
+        }
+        test("pledges at two prices make one pledge debt, and any pledged unit lowers it", () -> {
+            HarvestLender x = grown(50);
+            x.sell(0, 48);
+            due("at 100", x.pledge(0, 1), 60);
+            x.setCrop(0, 10, 50);
+            due("at 10", x.pledge(0, 1), 6);
+            due("owes", x.owes(0), 66);
+            x.setCrop(0, 50, 50);
+            x.sell(0, 1);
+            due("owes", x.owes(0), 16);
+            due("no debt while one is pledged", x.debt(0), 0);
+            x.sell(0, 1);
+            due("owes", x.owes(0), 0);
+            due("the rest comes", x.purse(0), 4800 + 66 + 34);
         });
     }
 
@@ -1010,6 +1142,54 @@ public final class HarvestLenderEdges extends Checks {
         });
     }
 
+    private static void whatIsRolled() {
+        test("a debt is rolled with a cover too: what the cover left of it", () -> {
+            HarvestLender x = with(1, 0);
+            x.setCrop(0, 1, 100);
+            x.plant(0, 0, 1);
+            x.cover(0, 60);
+            x.setYield(0, 50);
+            x.draw(0, 40);
+            goTo(x, 4);
+            x.close();
+            due("instalments", x.instalments(0), 3);
+            due("debt", x.debt(0), 0);
+            due("owes", x.owes(0), 30);
+            due("repaid", x.repaid(0, COVER), 10);
+        });
+        test("a pledge debt is not rolled with the debt, and hinders nothing", () -> {
+            HarvestLender x = pledgedOneOf(1, 30, 59);
+            x.close();
+            due("instalments", x.instalments(0), 3);
+            due("debt", x.debt(0), 0);
+            due("owes", x.owes(0), 30 + 6);
+            due("pledged", x.grain(0, true), 1);
+            x.sell(0, 1);
+            due("the pledge debt is paid, the instalments stand", x.owes(0), 30);
+            due("purse", x.purse(0), 4);
+        });
+        test("an old debt and what was drawn are rolled together", () -> {
+            HarvestLender x = owingOnly(9);
+            x.plant(0, 0, 1);
+            x.draw(0, 21);
+            x.setYield(0, 1);
+            goTo(x, 4);
+            x.close();
+            due("instalments", x.instalments(0), 3);
+            due("owes", x.owes(0), 30);
+            due("debt", x.debt(0), 0);
+        });
+        test("an old debt is rolled in a bad year without a drawing", () -> {
+            HarvestLender x = owingOnly(9);
+            x.plant(0, 0, 1);
+            x.setYield(0, 59);
+            goTo(x, 4);
+            x.close();
+            due("instalments", x.instalments(0), 3);
+            due("owes", x.owes(0), 9);
+        });
+    }
+
     private static void instalments() {
         test("no instalments, then three, two, one, none, and none still", () -> {
             HarvestLender x = with(1, 0);
@@ -1079,6 +1259,110 @@ public final class HarvestLenderEdges extends Checks {
             due("the group pays the first one", x.called(1), 10);
             due("and not the others", x.owes(0), 20);
             due("GROUP", x.repaid(0, GROUP), 10);
+        });
+    }
+
+    private static void debtors() {
+        test("with instalments a farmer can plant, be covered, draw, pledge, sell and repay", () -> {
+            HarvestLender x = rolledFrom(30);
+            x.setNeed(0, 0, 1000);
+            due("plant", x.plant(0, 0, 1), 1000);
+            due("cover", x.cover(0, 50), 0);
+            due("draw", x.draw(0, 100), 900);
+            due("setYield", x.setYield(0, 100), 100);
+            goTo(x, 4);
+            due("debt", x.debt(0), 108);
+            due("pledge", x.pledge(0, 1), 60);
+            due("debt", x.debt(0), 48);
+            due("sell", x.sell(0, 10), 1000);
+            due("purse", x.purse(0), 952);
+            due("instalments", x.instalments(0), 3);
+            x.close();
+            due("purse less the first one", x.purse(0), 942);
+            x.plant(0, 0, 1);
+            x.draw(0, 40);
+            due("repay", x.repay(0, 40), 0);
+            due("instalments", x.instalments(0), 2);
+            due("owes", x.owes(0), 20 + 60);
+        });
+        test("with a debt and a pledge debt a farmer can plant, be covered and draw", () -> {
+            HarvestLender x = pledgedOneOf(1, 30);
+            x.close();
+            due("debt", x.debt(0), 30);
+            due("plant", x.plant(0, 0, 1), 1000);
+            due("cover", x.cover(0, 50), 0);
+            due("draw", x.draw(0, 1000), 0);
+            due("owes", x.owes(0), 1036);
+        });
+    }
+
+    private static void payers() {
+        test("who has instalments left pays with all of the purse", () -> {
+            HarvestLender x = atClose(new int[] {0, 0}, new int[] {0, 30}, 59);
+            x.close();
+            bringToClose(x, new int[] {0, 45}, new int[] {40, 0}, 100);
+            due("purse less one instalment", x.purse(1), 35);
+            due("two are left", x.owes(1), 20);
+            x.close();
+            due("all behind the second one", x.called(1), 25);
+            due("purse", x.purse(1), 0);
+            due("the last one stands", x.owes(1), 10);
+            due("instalments", x.instalments(1), 1);
+            due("debt", x.debt(0), 15);
+        });
+        test("who has a pledge debt pays with all of the purse", () -> {
+            HarvestLender x = with(2, 0);
+            x.plant(0, 0, 1);
+            x.plant(1, 0, 1);
+            x.draw(1, 49);
+            goTo(x, 4);
+            x.setCrop(0, 50, 50);
+            due("pledge", x.pledge(0, 1), 30);
+            x.close();
+            due("called", x.called(0), 30);
+            due("purse", x.purse(0), 0);
+            due("the pledge debt stands", x.owes(0), 30);
+            due("debt", x.debt(1), 19);
+        });
+        test("in a bad year, without a planting and with grain the others pay too", () -> {
+            HarvestLender x = savers(0, 10, 10, 10);
+            x.setCrop(0, 100, 50);
+            x.plant(0, 0, 1);
+            x.draw(0, 40);
+            x.plant(1, 0, 1);
+            x.setYield(1, 0);
+            x.setYield(2, 0);
+            x.plant(3, 0, 1);
+            goTo(x, 4);
+            x.close();
+            for (int i = 1; i < 4; i++) {
+                due("called of " + i, x.called(i), 10);
+                due("purse of " + i, x.purse(i), 0);
+            }
+            due("debt", x.debt(0), 10);
+        });
+        test("a payer of one close is a debtor of the next, and the other way round", () -> {
+            HarvestLender x = atClose(new int[] {0, 10}, new int[] {10, 0}, 100);
+            x.close();
+            due("called", x.called(1), 10);
+            bringToClose(x, new int[] {30, 0}, new int[] {0, 40}, 100);
+            x.close();
+            due("called of the payer", x.called(0), 30);
+            due("called of the debtor", x.called(1), 0);
+            due("debt", x.debt(1), 10);
+            due("repaid", x.repaid(0, GROUP), 10);
+            due("repaid", x.repaid(1, GROUP), 30);
+        });
+        test("called is of the last close for a farmer who has a debt at it", () -> {
+            HarvestLender x = atClose(new int[] {0, 10}, new int[] {10, 0}, 100);
+            x.close();
+            due("called", x.called(1), 10);
+            x.plant(1, 0, 1);
+            x.draw(1, 40);
+            goTo(x, 4);
+            x.close();
+            due("called", x.called(1), 0);
+            due("debt", x.debt(1), 40);
         });
     }
 
@@ -1304,6 +1588,25 @@ public final class HarvestLenderEdges extends Checks {
         }
         goTo(x, 4);
         due("debt at first", x.debt(0), debt);
+        return x;
+    }
+
+    /** A farmer at the stage 4 with so many units at a price of 10, one of them pledged, and such a debt below 44. */
+    private static HarvestLender pledgedOneOf(int units, int debt) {
+        return pledgedOneOf(units, debt, 100);
+    }
+
+    private static HarvestLender pledgedOneOf(int units, int debt, int yield) {
+        HarvestLender x = with(1, 0);
+        x.setCrop(0, 10, (100 * units + yield - 1) / yield);
+        x.plant(0, 0, 1);
+        x.setYield(0, yield);
+        x.draw(0, debt + 6);
+        goTo(x, 4);
+        due("grain at first", x.grain(0, false), units);
+        due("pledge at first", x.pledge(0, 1), 6);
+        due("debt at first", x.debt(0), debt);
+        due("owes at first", x.owes(0), debt + 6);
         return x;
     }
 

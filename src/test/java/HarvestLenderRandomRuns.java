@@ -7,11 +7,24 @@ import java.util.function.LongSupplier;
 
 /**
  * Long runs of calls from fixed seeds, each answer compared with a second, slower reading of the
- * document's terms that keeps every unit of grain by itself and every cent in a book.
+ * document's terms that keeps every unit of grain by itself and every cent in a book. Every second run
+ * does mostly what farmers do at a stage, so that seasons follow on one another with debts, pledges,
+ * covers and instalments at once, and asks for everything at its end.
  */
 public final class HarvestLenderRandomRuns {
     private static final int RUNS = 2000;
     private static final int CALLS = 512;
+
+    private static final String[] ANY_CALLS = {"setNeed", "setCrop", "add", "farmers", "plant", "plant", "plant",
+        "cover", "draw", "draw", "setYield", "setYield", "pledge", "pledge", "sell", "sell", "repay", "season",
+        "stage", "limit", "debt", "owes", "instalments", "purse", "grain", "called", "repaid", "charged", "close"};
+    private static final String[] SOWING = {"plant", "plant", "plant", "plant", "cover", "cover", "draw", "draw",
+        "setYield", "setYield", "pledge", "sell", "repay", "setNeed", "setCrop"};
+    private static final String[] GROWING = {"draw", "draw", "setYield", "setYield", "pledge", "sell", "repay",
+        "debt", "purse"};
+    private static final String[] REAPING = {"pledge", "sell", "sell", "repay", "owes", "purse", "instalments"};
+    private static final String[] ASKING = {"limit", "debt", "owes", "instalments", "purse", "called", "charged",
+        "grain", "grain", "repaid", "repaid", "repaid", "repaid", "repaid"};
 
     public static void main(String[] args) {
         for (int run = 0; run < RUNS; run++) {
@@ -28,10 +41,12 @@ public final class HarvestLenderRandomRuns {
         private final HarvestLender x = new HarvestLender();
         private final Book book = new Book();
         private final List<String> told = new ArrayList<>();
+        private final boolean farming;
         private long state;
 
         Run(int seed) {
             this.seed = seed;
+            this.farming = seed % 2 == 1;
             this.state = seed * 7919L + 17;
         }
 
@@ -60,20 +75,28 @@ public final class HarvestLenderRandomRuns {
         }
 
         boolean holds() {
-            int calm = 1 + upTo(3);
+            int calm = 1 + upTo(farming ? 2 : 3);
             for (int i = 0; i < CALLS; i++) {
-                String call = nextCall(i < 12, calm);
-                int[] with = arguments(call);
-                String got = answer(() -> Calls.ask(x, call, with));
-                String want = answer(() -> book.ask(call, with));
-                told.add(call + " " + Arrays.toString(with) + " -> " + got);
-                if (!got.equals(want)) {
-                    System.out.println("seed " + seed + ", due is " + want + ":");
-                    told.subList(Math.max(0, told.size() - 60), told.size()).forEach(System.out::println);
+                int left = CALLS - i;
+                boolean ends = farming && left <= ASKING.length * book.farmers.size();
+                String call = ends ? ASKING[left % ASKING.length] : nextCall(i < 12, calm);
+                int[] with = ends ? askingArguments(left) : arguments(call);
+                if (!holds(call, with)) {
                     return false;
                 }
             }
             return true;
+        }
+
+        private boolean holds(String call, int[] with) {
+            String got = answer(() -> Calls.ask(x, call, with));
+            String want = answer(() -> book.ask(call, with));
+            told.add(call + " " + Arrays.toString(with) + " -> " + got);
+            if (!got.equals(want)) {
+                System.out.println("seed " + seed + ", due is " + want + ":");
+                told.subList(Math.max(0, told.size() - 60), told.size()).forEach(System.out::println);
+            }
+            return got.equals(want);
         }
 
         private String nextCall(boolean first, int calm) {
@@ -83,10 +106,26 @@ public final class HarvestLenderRandomRuns {
             if (upTo(9) < calm) {
                 return book.stage == 4 && upTo(3) > 0 ? "close" : "next";
             }
-            String[] calls = {"setNeed", "setCrop", "add", "farmers", "plant", "plant", "plant", "cover", "draw",
-                "draw", "setYield", "setYield", "pledge", "pledge", "sell", "sell", "repay", "season", "stage",
-                "limit", "debt", "owes", "instalments", "purse", "grain", "called", "repaid", "charged", "close"};
+            String[] calls = usualCalls();
             return calls[upTo(calls.length - 1)];
+        }
+
+        private String[] usualCalls() {
+            if (!farming) {
+                return ANY_CALLS;
+            }
+            return book.stage == 0 ? SOWING : book.stage == 4 ? REAPING : GROWING;
+        }
+
+        /** The farmers one behind the other; for each the pledged grain and all, and the five sources. */
+        private int[] askingArguments(int left) {
+            int farmer = (left - 1) / ASKING.length;
+            int which = left % ASKING.length;
+            switch (ASKING[which]) {
+                case "grain": return new int[] {farmer, which % 2};
+                case "repaid": return new int[] {farmer, which - (ASKING.length - 5)};
+                default: return new int[] {farmer};
+            }
         }
 
         private int[] arguments(String call) {
@@ -95,11 +134,11 @@ public final class HarvestLenderRandomRuns {
             switch (call) {
                 case "setNeed": return new int[] {near(0, 2), near(0, 3), near(0, upTo(1) == 0 ? 100000 : 900)};
                 case "setCrop": return new int[] {near(0, 2), near(1, upTo(1) == 0 ? 5000 : 9), near(0, 100)};
-                case "add": return new int[] {near(0, 2)};
-                case "plant": return new int[] {f, near(0, 2), near(1, 50)};
+                case "add": return new int[] {farming && upTo(2) > 0 ? 1 : near(0, 2)};
+                case "plant": return new int[] {f, farming ? cropToPlant(o) : near(0, 2), near(1, 50)};
                 case "cover": return new int[] {f, near(1, 90)};
                 case "draw": return new int[] {f, near(1, o == null ? 9 : (int) Math.max(1, book.drawable(o)))};
-                case "setYield": return new int[] {f, upTo(2) == 0 ? between(57, 62) : near(0, 200)};
+                case "setYield": return new int[] {f, upTo(2) == 0 ? between(57, 62) : near(0, farming ? 80 : 200)};
                 case "pledge": return new int[] {f, near(1, o == null ? 9 : Math.max(1, o.units(false)))};
                 case "sell": return new int[] {f, near(1, o == null ? 9 : Math.max(1, o.grain.size()))};
                 case "repay": return new int[] {f, near(1, o == null ? 9 : (int) Math.max(1, Math.min(o.debt, o.purse)))};
@@ -109,6 +148,10 @@ public final class HarvestLenderRandomRuns {
                     return new int[] {f};
                 default: return new int[0];
             }
+        }
+
+        private int cropToPlant(Book.Owner o) {
+            return o == null || o.grain.isEmpty() || upTo(5) == 0 ? near(0, 2) : o.cropOfGrain;
         }
 
         private static String answer(LongSupplier call) {
